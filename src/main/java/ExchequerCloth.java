@@ -547,6 +547,7 @@ public final class ExchequerCloth {
     private void forgetAnswers() {
         inquest.laid = false;
         inquest.sought = false;
+        payment.settled = false;
         scribe.holds = Scribe.NOTHING;
     }
 
@@ -1354,9 +1355,25 @@ public final class ExchequerCloth {
         private final int[] high = new int[COLUMNS];
         private final int[] cost = new int[COLUMNS * WIDTH];
         private int columns;
+        private int payer;
+        private int payee;
+        private int due;
+        private int answer;
+        private boolean settled;
 
         /** How many counters go and come, with over as it goes; CANNOT if there is no way. */
         private int settle(Cloth cloth, int row, int other, int sum) {
+            if (!settled || row != payer || other != payee || sum != due) {
+                payer = row;
+                payee = other;
+                due = sum;
+                answer = workOut(cloth, row, other, sum);
+                settled = true;
+            }
+            return answer;
+        }
+
+        private int workOut(Cloth cloth, int row, int other, int sum) {
             columns = cloth.columns;
             if (columns == 0 || sum > cloth.sumOf(row)) {
                 return CANNOT;
@@ -1406,9 +1423,10 @@ public final class ExchequerCloth {
             int ratio = Math.max(2, cloth.ratio[c + 1]);
             int best = CANNOT;
             for (int x = firstOver(c, rest, ratio); x <= most[c]; x += ratio) {
-                int all = costWith(c, rest, x, ratio);
-                if (all != CANNOT && (best == CANNOT || all < best)) {
-                    best = all;
+                // no later column can make good what x alone costs
+                if (best == CANNOT || Math.abs(x) < best) {
+                    int all = costWith(c, rest, x, ratio);
+                    best = all != CANNOT && (best == CANNOT || all < best) ? all : best;
                 }
             }
             return best;
@@ -1434,10 +1452,10 @@ public final class ExchequerCloth {
             int rest = sum;
             for (int c = 0; c < columns - 1; c++) {
                 int ratio = Math.max(2, cloth.ratio[c + 1]);
-                int due = costOf(c, rest);
+                int least = costOf(c, rest);
                 over[c] = 0;
                 for (int x = firstOver(c, rest, ratio); x <= most[c]; x += ratio) {
-                    if (costWith(c, rest, x, ratio) == due) {
+                    if (costWith(c, rest, x, ratio) == least) {
                         over[c] = x;
                         break;
                     }
@@ -1499,8 +1517,9 @@ public final class ExchequerCloth {
         private void layExtremes(Cloth cloth) {
             for (int t = cloth.moves; t >= 0; t--) {
                 strained[t] = 0;
-                for (int i = t * CELLS; i < (t + 1) * CELLS; i++) {
-                    boolean last = t == cloth.moves;
+                boolean last = t == cloth.moves;
+                int end = t * CELLS + cloth.rows * COLUMNS;
+                for (int i = t * CELLS; i < end; i++) {
                     least[i] = last ? lies[i] : Math.min(lies[i], least[i + CELLS]);
                     most[i] = last ? lies[i] : Math.max(lies[i], most[i + CELLS]);
                     strained[t] += isStrained(i) ? 1 : 0;
@@ -1514,13 +1533,20 @@ public final class ExchequerCloth {
 
         /** The last time up to which all moves can be as they stand. */
         private void findSound(Cloth cloth) {
-            sound = cloth.moves;
-            for (int i = 0; i < (cloth.moves + 1) * CELLS; i++) {
+            sound = 0;
+            while (sound < cloth.moves && isSound(cloth, sound + 1)) {
+                sound++;
+            }
+        }
+
+        private boolean isSound(Cloth cloth, int t) {
+            int end = t * CELLS + cloth.rows * COLUMNS;
+            for (int i = t * CELLS; i < end; i++) {
                 if (lies[i] < 0 || lies[i] > FULL) {
-                    sound = i / CELLS - 1;
-                    return;
+                    return false;
                 }
             }
+            return true;
         }
 
         private int cellsApart(Cloth cloth) {
