@@ -41,7 +41,8 @@ final class Told {
 
     static String spelled(ExchequerCloth x) {
         StringBuilder all = new StringBuilder();
-        for (int i = 0; x.spell(i) >= 0; i++) {
+        int length = x.spell(-1);
+        for (int i = 0; i < length; i++) {
             all.append((char) x.spell(i));
         }
         return all.toString();
@@ -49,7 +50,8 @@ final class Told {
 
     static String reported(ExchequerCloth x, int row) {
         StringBuilder all = new StringBuilder();
-        for (int i = 0; x.report(row, i) >= 0; i++) {
+        int length = x.report(row, -1);
+        for (int i = 0; i < length; i++) {
             all.append((char) x.report(row, i));
         }
         return all.toString();
