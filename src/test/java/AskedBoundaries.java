@@ -87,6 +87,7 @@ final class AskedBoundaries {
             b.due("WORTH of COLUMN 5", x.worth(5, 1), 3200000);
             b.due("COUNTERS in COLUMN 5", x.worth(5, 2), 396);
             b.due("COUNTERS without ROWS", Told.cloth(MONEY).worth(2, 2), 0);
+            b.due("COUNTERS of unlike ROWS", Told.cloth("column 1;column 2;row 1 2;row 4;row 0 8;row 16 16;").worth(1, 2), 26);
         });
         b.promise(27, "NONE for others.", () -> {
             ExchequerCloth x = Told.cloth(TWO);

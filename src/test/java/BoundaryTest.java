@@ -16,6 +16,7 @@ public final class BoundaryTest {
         new LogBoundaries(b).run();
         new InquestBoundaries(b).run();
         new WrittenBoundaries(b).run();
+        new SizeBoundaries(b).run();
         b.finish("BoundaryTest");
     }
 }

@@ -323,5 +323,13 @@ final class FaultBoundaries {
                 b.faults(CLOTH + end);
             }
         });
+        b.terms(4, "the TEXT's length, if it ends too early).", () -> {
+            // behind the 400th byte of a full tape
+            for (String end : new String[] {"column^", "column 1^", "column 1;column 2;row^", "column 1;column 2;row 1^",
+                "column 1;row 1;put 0 0 1^", "column 1;row 1;seen 0 0 0 1^", "column 1;column 2;row 1 ^"}) {
+                b.faults(" ".repeat(401 - end.length()) + end);
+            }
+            b.reads(" ".repeat(385) + "column 1;row 1;", 1);
+        });
     }
 }
