@@ -289,6 +289,7 @@ final class SizeBoundaries {
             b.due("report(0, 0) behind spell", x.report(0, 0), '5');
             b.due("report(1, 0) behind report(0)", x.report(1, 0), '6');
             b.due("spell(0) behind report", x.spell(0), 'c');
+            b.due("report(1, 0) once more behind spell", x.report(1, 0), '6');
             x.put(false, 1, 0, 1);
             b.due("report(1, 0) behind put", x.report(1, 0), '7');
             x.undo();
