@@ -31,10 +31,10 @@ public final class ExchequerCloth {
     private static final int BREAK = 3;
     private static final int SHIFT = 4;
 
-    private final Tape tape = new Tape();
+    private final Reader reader = new Reader();
+    private final Tape tape = reader.tape;
     private final Cloth cloth = new Cloth();
     private final Past past = new Past();
-    private final Reader reader = new Reader(tape);
     private final Purse purse = new Purse();
     private final Payment payment = new Payment();
     private final Inquest inquest = new Inquest();
@@ -890,7 +890,7 @@ public final class ExchequerCloth {
         }
     }
 
-    /** Reads a tape as a text into a draft, so that a fault leaves the cloth alone. */
+    /** Reads its tape as a text into a draft, so that a fault leaves the cloth alone. */
     private static final class Reader {
         private static final int COLUMN_WORD = 5;
         private static final int ROW_WORD = 6;
@@ -900,17 +900,12 @@ public final class ExchequerCloth {
         private final Cloth draft = new Cloth();
         private final Effect effect = new Effect();
         private final int[] number = new int[MOST_NUMBERS];
-        private final int[] bytes;
-        private final Tape tape;
+        private final Tape tape = new Tape();
+        private final int[] bytes = tape.bytes;
         private int length;
         private int place;
         private int stage;
         private int fault;
-
-        private Reader(Tape from) {
-            tape = from;
-            bytes = from.bytes;
-        }
 
         /** NONE, or the place of the first byte that can't stand there. */
         private int readAll() {

@@ -7,7 +7,9 @@ import java.nio.file.Path;
 import java.util.ArrayList;
 import java.util.HashSet;
 import java.util.List;
+import java.util.Map;
 import java.util.Set;
+import java.util.TreeMap;
 import java.util.TreeSet;
 import java.util.regex.Matcher;
 import java.util.regex.Pattern;
@@ -34,7 +36,9 @@ public final class LanguageTest {
         test.names();
         test.words();
         test.methods();
+        test.calls();
         test.madeInConstructorsAlone();
+        test.nothingHandedOutWhileMade();
         test.check.finish("LanguageTest");
     }
 
@@ -145,6 +149,56 @@ public final class LanguageTest {
                 start = -1;
             }
         }
+    }
+
+    /** Which methods each method calls; methods of one name count as one, which makes chains longer at most. */
+    private Map<String, Set<String>> callsOfEach() {
+        Map<String, Set<String>> all = new TreeMap<>();
+        String name = "";
+        for (String line : code.split("\n")) {
+            Matcher m = METHOD.matcher(line);
+            if (m.matches()) {
+                name = m.group(1);
+                all.putIfAbsent(name, new TreeSet<>());
+            } else if (!name.isEmpty()) {
+                Matcher called = Pattern.compile("\\b(\\w+)\\(").matcher(line);
+                while (called.find()) {
+                    all.get(name).add(called.group(1));
+                }
+            }
+        }
+        return all;
+    }
+
+    /** No recursion, so the longest chain of calls can be told. */
+    private void calls() {
+        Map<String, Set<String>> all = callsOfEach();
+        check.holds("the methods are found", all.size() > 150);
+        for (String name : all.keySet()) {
+            List<String> chain = longestChain(all, name, new ArrayList<>());
+            check.holds("at most eight deep, none twice: " + chain, chain.size() <= 8);
+        }
+    }
+
+    private static List<String> longestChain(Map<String, Set<String>> all, String name, List<String> above) {
+        List<String> chain = new ArrayList<>(above);
+        chain.add(name);
+        List<String> longest = chain;
+        // what calls itself makes a chain that goes on beyond every bound
+        for (String called : chain.size() > 8 ? Set.<String>of() : all.getOrDefault(name, Set.of())) {
+            List<String> one = longestChain(all, called, chain);
+            longest = one.size() > longest.size() ? one : longest;
+        }
+        return longest;
+    }
+
+    /** No part of an object goes to another class while the object is being made. */
+    private void nothingHandedOutWhileMade() {
+        Matcher made = Pattern.compile("new \\w+\\([^)]*\\)").matcher(code);
+        while (made.find()) {
+            check.holds(made.group() + " is given nothing", made.group().endsWith("()"));
+        }
+        check.holds("no this", !Pattern.compile("\\bthis\\b").matcher(code).find());
     }
 
     /** Everything is made in fields' initialisers and constructors, so that calls make nothing. */
